@@ -494,7 +494,8 @@ public final class SquadronFlags {
         private final int[] repeaters = new int[SHIPS];
         private final int[] farness = new int[SHIPS];
         private final int[] alikeFrom = new int[FLAGS * FLAGS];
-        private final boolean[] hazeTold = new boolean[MINUTES];
+
+        // Of each minute twice the HAZE, and 1 more where it was told.
         private final int[] hazes = new int[MINUTES];
 
         Squadron() {
@@ -529,15 +530,14 @@ public final class SquadronFlags {
         }
 
         void tellHaze(int minute, int n) {
-            hazeTold[minute] = true;
-            hazes[minute] = n;
-            for (int m = minute + 1; m < MINUTES && !hazeTold[m]; m++) {
-                hazes[m] = n;
+            hazes[minute] = 2 * n + 1;
+            for (int m = minute + 1; m < MINUTES && (hazes[m] & 1) == 0; m++) {
+                hazes[m] = 2 * n;
             }
         }
 
         int hazeAt(int minute) {
-            return minute >= 0 && minute < MINUTES ? hazes[minute] : 0;
+            return minute >= 0 && minute < MINUTES ? hazes[minute] >> 1 : 0;
         }
 
         int dimAt(int ship, int minute) {
@@ -614,7 +614,72 @@ public final class SquadronFlags {
         }
     }
 
-    /** Reads the text of a BOOK from the tape, token by token, up to its first FAULT. */
+    /** The text of the tape, cut in tokens. */
+    private static final class Tokens {
+        private static final int END = 0;
+        private static final int WORD = 1;
+        private static final int NUMBER = 2;
+        private static final int CODE = 3;
+        private static final int SIGN = 4;
+        private static final int RUN_TOGETHER = 5;
+
+        private static final int NUMBER_DIGITS = 4;
+
+        // A token is one number: its kind, its start and its stop (ten bits each), its value (thirty bits).
+        private final Tape tape;
+        private final long[] packed = new long[TAPE_BYTES + 1];
+        private int count;
+        private int kindBefore;
+        private int stopBefore;
+
+        Tokens(Tape bytes) {
+            tape = bytes;
+        }
+
+        void cut() {
+            count = 0;
+            kindBefore = END;
+            stopBefore = 0;
+            for (int at = 0; at < tape.length; at++) {
+                if (at >= stopBefore && !isBlank(tape.at(at))) {
+                    cutOne(at);
+                }
+            }
+            add(END, tape.length, tape.length, 0);
+        }
+
+        private void cutOne(int start) {
+            int wordEnd = tape.wordEnd(start);
+            int numberEnd = tape.numberEnd(start);
+            if (wordEnd > start) {
+                add(WORD, start, wordEnd, tape.word(start, wordEnd));
+            } else if (numberEnd > start) {
+                add(NUMBER, start, numberEnd, tape.number(start, Math.min(numberEnd, start + NUMBER_DIGITS)));
+            } else if (tape.at(start) == '.') {
+                int codeEnd = tape.wordEnd(start + 1);
+                add(CODE, start, codeEnd, tape.word(start + 1, codeEnd));
+            } else {
+                add(SIGN, start, start + 1, tape.at(start));
+            }
+        }
+
+        private void add(int kind, int start, int stop, int value) {
+            boolean runs = isWordy(kind) && isWordy(kindBefore) && stopBefore == start;
+            kindBefore = runs ? RUN_TOGETHER : kind;
+            stopBefore = stop;
+            if (count < packed.length) {
+                packed[count] = ((long) kindBefore << 10 | start) << 10 | stop;
+                packed[count] = packed[count] << 30 | value;
+                count++;
+            }
+        }
+
+        private static boolean isWordy(int kind) {
+            return kind == WORD || kind == NUMBER;
+        }
+    }
+
+    /** Reads the text of a BOOK, token by token, up to its first FAULT. */
     private static final class BookReader {
         private static final int WRONG_BYTE = 1;
         private static final int NAME_TOO_OFTEN = 2;
@@ -622,14 +687,6 @@ public final class SquadronFlags {
         private static final int TOO_MANY = 4;
 
         private static final int MOST_OPEN = 6;
-        private static final int NUMBER_DIGITS = 4;
-
-        private static final int END = 0;
-        private static final int WORD = 1;
-        private static final int NUMBER = 2;
-        private static final int CODE = 3;
-        private static final int SIGN = 4;
-        private static final int RUN_TOGETHER = 5;
 
         // The OWN WORDS, each as Tape.word() packs it.
         private static final int SENSE = (((19 << 5 | 5) << 5 | 14) << 5 | 19) << 5 | 5;
@@ -644,11 +701,15 @@ public final class SquadronFlags {
         private static final int MINUTE = ((((13 << 5 | 9) << 5 | 14) << 5 | 21) << 5 | 20) << 5 | 5;
         private static final int HAZE = ((8 << 5 | 1) << 5 | 26) << 5 | 5;
 
-        private final Tape tape;
+        private final Tokens tokens;
+        private int next;
+
+        // The token that is to be read.
         private int kind;
         private int start;
         private int stop;
         private int value;
+
         private int fault;
         private int faultPlace = NONE;
         private int count;
@@ -658,8 +719,8 @@ public final class SquadronFlags {
         private final int[] program = new int[TAPE_BYTES];
         private int programLength;
 
-        BookReader(Tape bytes) {
-            tape = bytes;
+        BookReader(Tape tape) {
+            tokens = new Tokens(tape);
         }
 
         /** The BOOK on the tape; null with a FAULT. */
@@ -668,10 +729,10 @@ public final class SquadronFlags {
             faultPlace = NONE;
             count = 0;
             programLength = 0;
-            kind = END;
-            stop = 0;
+            tokens.cut();
+            next = 0;
             advance();
-            for (int n = 0; n <= MOST_SENSES && kind != END; n++) {
+            for (int n = 0; n <= MOST_SENSES && kind != Tokens.END; n++) {
                 if (n == MOST_SENSES) {
                     blame(TOO_MANY, start);
                     return null;
@@ -702,7 +763,7 @@ public final class SquadronFlags {
         }
 
         private boolean takeName() {
-            if (kind != WORD || isOwnWord(value)) {
+            if (kind != Tokens.WORD || isOwnWord(value)) {
                 return blame(WRONG_BYTE, start);
             }
             if (stop - start > NAME_LETTERS) {
@@ -726,7 +787,7 @@ public final class SquadronFlags {
 
         private boolean takeCode() {
             int letters = stop - start - 1;
-            if (kind != CODE) {
+            if (kind != Tokens.CODE) {
                 return blame(WRONG_BYTE, start);
             }
             if (letters < 1) {
@@ -800,7 +861,7 @@ public final class SquadronFlags {
             if (!sum(open)) {
                 return false;
             }
-            int sign = kind == SIGN ? Facts.comparing(value) : NONE;
+            int sign = kind == Tokens.SIGN ? Facts.comparing(value) : NONE;
             if (sign == NONE) {
                 return blame(WRONG_BYTE, start);
             }
@@ -817,7 +878,7 @@ public final class SquadronFlags {
                 return false;
             }
             for (int i = 0; i < TAPE_BYTES; i++) {
-                int sign = kind == SIGN ? Facts.joining(value) : NONE;
+                int sign = kind == Tokens.SIGN ? Facts.joining(value) : NONE;
                 if (sign == NONE) {
                     return true;
                 }
@@ -838,12 +899,12 @@ public final class SquadronFlags {
                 advance();
                 return sum(open + 1) && takeSign(')');
             }
-            int figure = kind == NUMBER ? value : kind == WORD ? figureNamed(value) : NONE;
+            int figure = kind == Tokens.NUMBER ? value : kind == Tokens.WORD ? figureNamed(value) : NONE;
             if (figure == NONE) {
                 return blame(WRONG_BYTE, start);
             }
-            if (kind == NUMBER && stop - start > NUMBER_DIGITS) {
-                return blame(WRONG_BYTE, start + NUMBER_DIGITS);
+            if (kind == Tokens.NUMBER && stop - start > Tokens.NUMBER_DIGITS) {
+                return blame(WRONG_BYTE, start + Tokens.NUMBER_DIGITS);
             }
             emit(figure);
             advance();
@@ -888,11 +949,11 @@ public final class SquadronFlags {
         }
 
         private boolean isWord(int word) {
-            return kind == WORD && value == word;
+            return kind == Tokens.WORD && value == word;
         }
 
         private boolean isSign(int sign) {
-            return kind == SIGN && value == sign;
+            return kind == Tokens.SIGN && value == sign;
         }
 
         private boolean takeWord(int word) {
@@ -918,40 +979,15 @@ public final class SquadronFlags {
             return false;
         }
 
-        /** Goes on to the token behind this one. */
+        /** Goes on to the next token; END has none behind it. */
         private void advance() {
-            boolean wordy = kind == WORD || kind == NUMBER;
-            int before = stop;
-            start = before;
-            for (int i = before; i < tape.length && isBlank(tape.at(i)); i++) {
-                start = i + 1;
-            }
-            scan();
-            if (wordy && start == before && (kind == WORD || kind == NUMBER)) {
-                kind = RUN_TOGETHER;
-            }
-        }
-
-        private void scan() {
-            value = tape.at(start);
-            if (value == NONE) {
-                kind = END;
-                stop = start;
-            } else if (tape.letterAt(start)) {
-                kind = WORD;
-                stop = tape.wordEnd(start);
-                value = tape.word(start, stop);
-            } else if (tape.digitAt(start)) {
-                kind = NUMBER;
-                stop = tape.numberEnd(start);
-                value = tape.number(start, stop < start + NUMBER_DIGITS ? stop : start + NUMBER_DIGITS);
-            } else if (value == '.') {
-                kind = CODE;
-                stop = tape.wordEnd(start + 1);
-                value = tape.word(start + 1, stop);
-            } else {
-                kind = SIGN;
-                stop = start + 1;
+            if (next < tokens.count && next < tokens.packed.length) {
+                long token = tokens.packed[next];
+                kind = (int) (token >> 50);
+                start = (int) (token >> 40 & 1023L);
+                stop = (int) (token >> 30 & 1023L);
+                value = (int) (token & (1L << 30) - 1L);
+                next++;
             }
         }
     }
@@ -959,18 +995,19 @@ public final class SquadronFlags {
     /** Tells whether TESTS hold, for one SHIP at one minute. */
     private static final class Facts {
         // The steps of a program; one of 0 and more is the NUMBER itself. None of them is NONE.
+        // Those ahead of NOT put one figure more, NOT turns the last one, those behind it join the last two.
         private static final int SHIP = -2;
         private static final int HOUR = -3;
         private static final int MINUTE = -4;
         private static final int HAZE = -5;
-        private static final int ADD = -6;
-        private static final int TAKE = -7;
-        private static final int TIMES = -8;
-        private static final int LESS = -9;
-        private static final int MORE = -10;
-        private static final int SAME = -11;
-        private static final int ALL = -12;
-        private static final int NOT = -13;
+        private static final int ALL = -6;
+        private static final int NOT = -7;
+        private static final int ADD = -8;
+        private static final int TAKE = -9;
+        private static final int TIMES = -10;
+        private static final int LESS = -11;
+        private static final int MORE = -12;
+        private static final int SAME = -13;
         private static final int AND = -14;
         private static final int OR = -15;
 
@@ -978,7 +1015,6 @@ public final class SquadronFlags {
 
         // A TEST with 6 open at once leaves fewer than 32 figures waiting.
         private final int[] waiting = new int[64];
-        private int height;
         private int ship;
         private int minute;
         private int haze;
@@ -992,55 +1028,47 @@ public final class SquadronFlags {
         boolean testHolds(Book book, int sense) {
             int from = book.testStart(sense);
             int to = sense >= 0 && sense < book.count ? book.testEnds[sense] : 0;
-            if (from >= to) {
-                return true;
-            }
-            height = 0;
+            int height = 0;
             for (int i = from; i < to && i < book.program.length; i++) {
-                step(book.program[i]);
+                int step = book.program[i];
+                if (step == NOT && height >= 1) {
+                    waiting[height - 1] = 1 - waiting[height - 1];
+                } else if (step <= ADD && height >= 2) {
+                    height--;
+                    waiting[height - 1] = joined(step, waiting[height - 1], waiting[height]);
+                } else if (step > NOT && height < waiting.length) {
+                    waiting[height] = figure(step);
+                    height++;
+                }
             }
-            return pop() != 0;
+            return height == 0 || waiting[0] != 0;
         }
 
-        private void step(int step) {
+        private int figure(int step) {
             switch (step) {
                 case SHIP:
-                    push(ship);
-                    break;
+                    return ship;
                 case HOUR:
-                    push(minute / 60);
-                    break;
+                    return minute / 60;
                 case MINUTE:
-                    push(minute);
-                    break;
+                    return minute;
                 case HAZE:
-                    push(haze);
-                    break;
+                    return haze;
                 case ALL:
-                    push(1);
-                    break;
-                case NOT:
-                    push(1 - pop());
-                    break;
+                    return 1;
                 default:
-                    if (step >= 0) {
-                        push(step);
-                    } else {
-                        int right = pop();
-                        push(joined(step, pop(), right));
-                    }
-                    break;
+                    return step;
             }
         }
 
-        private static int joined(int step, int left, int right) {
+        private static int joined(int step, long left, long right) {
             switch (step) {
                 case ADD:
-                    return bounded((long) left + right);
+                    return (int) Math.min(MOST, Math.max(-MOST, left + right));
                 case TAKE:
-                    return bounded((long) left - right);
+                    return (int) Math.min(MOST, Math.max(-MOST, left - right));
                 case TIMES:
-                    return bounded((long) left * right);
+                    return (int) Math.min(MOST, Math.max(-MOST, left * right));
                 case LESS:
                     return left < right ? 1 : 0;
                 case MORE:
@@ -1048,29 +1076,10 @@ public final class SquadronFlags {
                 case SAME:
                     return left == right ? 1 : 0;
                 case AND:
-                    return left & right;
+                    return left != 0 && right != 0 ? 1 : 0;
                 default:
-                    return left | right;
+                    return left != 0 || right != 0 ? 1 : 0;
             }
-        }
-
-        private static int bounded(long n) {
-            return (int) Math.max(-MOST, Math.min(MOST, n));
-        }
-
-        private void push(int n) {
-            if (height >= 0 && height < waiting.length) {
-                waiting[height] = n;
-                height++;
-            }
-        }
-
-        private int pop() {
-            if (height > 0 && height <= waiting.length) {
-                height--;
-                return waiting[height];
-            }
-            return 0;
         }
 
         /** The step of < > = ; NONE for another sign. */
@@ -1132,7 +1141,7 @@ public final class SquadronFlags {
             book = code;
             holding = 0L;
             facts.set(ship, minute, squadron.hazeAt(minute));
-            for (int s = 0; s < code.count; s++) {
+            for (int s = 0; code != null && s < code.count; s++) {
                 if (facts.testHolds(code, s)) {
                     holding |= 1L << s;
                 }
@@ -1191,7 +1200,7 @@ public final class SquadronFlags {
             length = rowLength(letters);
             Arrays.fill(senseSets, 0L);
             Arrays.fill(nameSets, 0L);
-            for (int s = 0; s < book.count; s++) {
+            for (int s = 0; book != null && s < book.count; s++) {
                 int part = (holding >> s & 1L) != 0L ? book.codeLengths[s] : ROW + 1;
                 for (int from = 0; from + part <= length; from++) {
                     int rest = letters >> 5 * (length - from - part);
@@ -1334,7 +1343,7 @@ public final class SquadronFlags {
 
         /** Tries each CODE of the next NAME behind these letters; each level has more of the 4 letters. */
         private void extend(int from, int next, int letters, int used) {
-            for (int s = 0; s < book.count; s++) {
+            for (int s = 0; book != null && s < book.count; s++) {
                 int more = book.codeLengths[s];
                 if (book.ids[s] == ids[next] && used + more <= ROW && readings.inForce(s)) {
                     offer(from, next + 1, letters << 5 * more | book.codes[s], used + more);
@@ -1371,14 +1380,14 @@ public final class SquadronFlags {
         private static final int LONGEST = 300;
         private static final int MINUTES_ALOFT = 20;
 
-        // A HOIST READ in n NAMES has n SIGNS at least and takes more than n minutes, so no SHIP gets more than this.
-        private static final int ROOM = LONGEST + MESSAGE_NAMES;
+        // A HOIST READ in n NAMES has n SIGNS, 4 at most, and the next one is READ n + 1 minutes later at the soonest.
+        private static final int ROOM = LONGEST * ROW / (ROW + 1);
 
         private final Squadron squadron;
         private final Readings readings;
         private final Sender sender;
         private int last = NONE;
-        private final int[][] queues = new int[SHIPS][ROOM];
+        private final int[][] queues = new int[SHIPS - 1][ROOM];
         private final int[] heads = new int[SHIPS];
         private final int[] tails = new int[SHIPS];
         private final int[] aloft = new int[SHIPS];
@@ -1416,7 +1425,7 @@ public final class SquadronFlags {
 
         void pass(Book book, int start) {
             for (int minute = start; minute < start + LONGEST && isBusy(); minute++) {
-                for (int ship = 0; ship < last && ship < SHIPS - 1; ship++) {
+                for (int ship = 0; ship < last && ship + 1 < SHIPS; ship++) {
                     int row = fly(book, ship, minute);
                     if (row != NONE) {
                         hear(row, ship + 1, minute);
@@ -1462,7 +1471,7 @@ public final class SquadronFlags {
 
         private void bendOn(int ship, int minute) {
             int head = heads[ship];
-            if (head < tails[ship] && head < ROOM) {
+            if (ship < queues.length && head < tails[ship] && head < ROOM) {
                 aloft[ship] = queues[ship][head];
                 aloftFrom[ship] = minute + rowLength(aloft[ship]);
                 heads[ship] = head + 1;
@@ -1492,7 +1501,7 @@ public final class SquadronFlags {
         }
 
         private void relayOn(Book book, int ship, int minute) {
-            if (ship >= last || stopped[ship]) {
+            if (ship >= last || ship >= queues.length || stopped[ship]) {
                 return;
             }
             if (sender.plan(book, ship, minute) == NONE) {
