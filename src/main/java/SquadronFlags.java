@@ -314,18 +314,18 @@ public final class SquadronFlags {
     /** How many NAMES the tape has, put in scanned; NONE when it is no MESSAGE. */
     private int scanNames(Book book) {
         int names = 0;
+        int stop = 0;
         for (int at = 0; at < tape.length; at++) {
-            if (isBlank(tape.at(at))) {
+            if (at < stop || isBlank(tape.at(at))) {
                 continue;
             }
-            int stop = tape.wordEnd(at);
+            stop = tape.wordEnd(at);
             int name = tape.word(at, stop);
             if (name == 0 || book.idOf(name) == NONE || names >= MESSAGE_NAMES) {
                 return NONE;
             }
             scanned[names] = name;
             names++;
-            at = stop - 1;
         }
         return names == 0 ? NONE : names;
     }
@@ -1201,8 +1201,8 @@ public final class SquadronFlags {
             Arrays.fill(senseSets, 0L);
             Arrays.fill(nameSets, 0L);
             for (int s = 0; book != null && s < book.count; s++) {
-                int part = (holding >> s & 1L) != 0L ? book.codeLengths[s] : ROW + 1;
-                for (int from = 0; from + part <= length; from++) {
+                int part = book.codeLengths[s];
+                for (int from = 0; from + part <= length && inForce(s); from++) {
                     int rest = letters >> 5 * (length - from - part);
                     if ((rest & (1 << 5 * part) - 1) == book.codes[s]) {
                         senseSets[from * (ROW + 1) + part] |= 1L << s;
