@@ -1113,14 +1113,17 @@ public final class SquadronFlags {
 
     /** In what rows of NAMES rows of letters are READ, by one BOOK for one SHIP at one minute. */
     private static final class Readings {
-        private static final int PARTS = ROW * (ROW + 1);
+        private static final int WIDTH = ROW + 1;
+        private static final int PARTS = ROW * WIDTH;
+        private static final int CHOICES = MOST_ALIKE + 1;
 
         private final Squadron squadron;
         private final Facts facts;
         private Book book;
         private long holding;
 
-        // Of the row split last, at partAt(from, length): the SENSES in force with just this CODE, and their NAMES.
+        // Of the row split last, at (start of a part) * WIDTH + (its length): the SENSES in force with just this CODE,
+        // and the ids of their NAMES, a bit each.
         private int length;
         private final long[] senseSets = new long[PARTS];
         private final long[] nameSets = new long[PARTS];
@@ -1130,7 +1133,9 @@ public final class SquadronFlags {
         private final int[] rows = new int[MANY];
         private int found;
         private int limit;
-        private final int[] choices = new int[ROW * (MOST_ALIKE + 1)];
+
+        // What each sign of a HOIST may be, CHOICES places a sign.
+        private final int[] choices = new int[ROW * CHOICES];
 
         Readings(Squadron ships) {
             squadron = ships;
@@ -1188,12 +1193,8 @@ public final class SquadronFlags {
 
         /** The SENSES in force whose CODE is this part of the row split last, a bit each. */
         long sensesOf(int from, int partLength) {
-            int at = partAt(from, partLength);
+            int at = from * WIDTH + partLength;
             return at >= 0 && at < senseSets.length ? senseSets[at] : 0L;
-        }
-
-        private static int partAt(int from, int partLength) {
-            return from * (ROW + 1) + partLength;
         }
 
         private void split(int letters) {
@@ -1205,8 +1206,8 @@ public final class SquadronFlags {
                 for (int from = 0; from + part <= length && inForce(s); from++) {
                     int rest = letters >> 5 * (length - from - part);
                     if ((rest & (1 << 5 * part) - 1) == book.codes[s]) {
-                        senseSets[from * (ROW + 1) + part] |= 1L << s;
-                        nameSets[from * (ROW + 1) + part] |= 1L << book.ids[s];
+                        senseSets[from * WIDTH + part] |= 1L << s;
+                        nameSets[from * WIDTH + part] |= 1L << book.ids[s];
                     }
                 }
             }
@@ -1218,7 +1219,7 @@ public final class SquadronFlags {
             for (int from = length - 1; from >= 0; from--) {
                 reachesEnd[from] = false;
                 for (int part = 1; from + part <= length; part++) {
-                    if (nameSets[from * (ROW + 1) + part] != 0L && reachesEnd[from + part]) {
+                    if (nameSets[from * WIDTH + part] != 0L && reachesEnd[from + part]) {
                         reachesEnd[from] = true;
                     }
                 }
@@ -1232,7 +1233,7 @@ public final class SquadronFlags {
                 return;
             }
             for (int part = 1; from + part <= r.length; part++) {
-                long set = r.reachesEnd[from + part] ? r.nameSets[from * (ROW + 1) + part] : 0L;
+                long set = r.reachesEnd[from + part] ? r.nameSets[from * WIDTH + part] : 0L;
                 for (int id = 0; id < MOST_SENSES && r.found < r.limit; id++) {
                     if ((set >> id & 1L) != 0L) {
                         spell(r, from + part, names << 6 | id + 1);
@@ -1255,9 +1256,8 @@ public final class SquadronFlags {
 
         /** Lists what sign k may be: itself, then the FLAGS that it is LIKE, then 0. */
         private void choose(int k, int sign, int dim) {
-            int at = k * (MOST_ALIKE + 1);
-            int end = at + MOST_ALIKE + 1;
-            Arrays.fill(choices, at, end, 0);
+            int at = k * CHOICES;
+            int end = at + CHOICES;
             choices[at] = sign;
             at++;
             for (int other = 0; other < FLAGS && sign <= FLAGS && at < end; other++) {
@@ -1266,13 +1266,16 @@ public final class SquadronFlags {
                     at++;
                 }
             }
+            for (int rest = at; rest < end; rest++) {
+                choices[rest] = 0;
+            }
         }
 
         /** The HOIST of one choice for each sign, two bits a sign; no HOIST when there is no such choice. */
         private int picked(int pick, int signs) {
             int seen = 0;
             for (int k = 0; k < signs; k++) {
-                int choice = choices[k * (MOST_ALIKE + 1) + (pick >> 2 * k & 3)];
+                int choice = choices[k * CHOICES + (pick >> 2 * k & 3)];
                 if (choice == 0) {
                     return NONE;
                 }
@@ -1380,7 +1383,7 @@ public final class SquadronFlags {
         private static final int LONGEST = 300;
         private static final int MINUTES_ALOFT = 20;
 
-        // A HOIST READ in n NAMES has n SIGNS, 4 at most, and the next one is READ n + 1 minutes later at the soonest.
+        // A HOIST of n SIGNS is READ in n NAMES at most, n + 1 minutes behind the one before: 4 NAMES in 5 minutes.
         private static final int ROOM = LONGEST * ROW / (ROW + 1);
 
         private final Squadron squadron;
@@ -1674,7 +1677,9 @@ public final class SquadronFlags {
         private boolean addCut(int cut, int length) {
             int from = 0;
             int at = cuts * ROW;
-            Arrays.fill(parts, at, at + ROW, 0L);
+            for (int k = 0; k < ROW; k++) {
+                parts[at + k] = 0L;
+            }
             for (int k = 0; k < length && k < ROW; k++) {
                 if (k == length - 1 || (cut >> k & 1) != 0) {
                     parts[at] = readings.sensesOf(from, k + 1 - from);

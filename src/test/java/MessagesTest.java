@@ -45,6 +45,9 @@ public final class MessagesTest {
         SquadronFlags x = new SquadronFlags();
         due("without a BOOK", Kit.message(x, "go"), -1);
         due("the tape went", x.feed(0, 0, 0, 0, 0), 20);
+        Kit.book(x, "sense a is .a;sense abcdef is .b;");
+        due("7 letters are no NAME", Kit.message(x, "abcdefg"), -1);
+        due("no MESSAGE yet", x.all(2), 0);
         Kit.book(x, "sense go is .a;sense abcdef is .b;sense go is .c;");
         due("one", Kit.message(x, "go"), 1);
         due("two", Kit.message(x, "\n abcdef\n\ngo \n"), 2);

@@ -26,8 +26,19 @@ public final class ModelTest {
 
     /** Mostly what can be, now and then something beside it. */
     private int near(int from, int to) {
-        if (below(25) == 0) {
-            return below(2) == 0 ? from - 1 : to + 1;
+        switch (below(100)) {
+            case 0:
+            case 1:
+                return from - 1;
+            case 2:
+            case 3:
+                return to + 1;
+            case 4:
+                return Integer.MIN_VALUE;
+            case 5:
+                return Integer.MAX_VALUE;
+            default:
+                break;
         }
         return from + below(to - from + 1);
     }
