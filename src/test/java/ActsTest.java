@@ -199,6 +199,30 @@ public final class ActsTest {
         yes("as", x.as(7));
         due("one NAME, two NAMES", x.taken(7, 8), 1);
         due("haze", x.taken(6, 8), 2);
+        for (int other = 0; other < 4; other++) {
+            // One NAME of four is another one for him, or the same.
+            otherPart("abcd".charAt(other), "q", 1);
+            otherPart("abcd".charAt(other), "abcd".substring(other, other + 1), 2);
+        }
+        x = new SquadronFlags();
+        due("his", Kit.book(x, "sense b is .ab;sense c is .c;sense d is .d;"), 1);
+        due("ours", Kit.book(x, "sense a is .a;sense b is .b;sense c is .c;sense d is .d;"), 2);
+        due("flown", x.flown(0, 0, Kit.row("abcd")), 3);
+        due("b c d for a b c d", x.taken(3, 1), 1);
+        due("annul", x.annul(2), 4);
+        due("a b c d for b c d", x.taken(3, 2), 1);
+    }
+
+    /** What a b c d is for him, if the SENSE with this CODE has this NAME in his BOOK. */
+    private static void otherPart(char code, String name, int taken) {
+        SquadronFlags x = new SquadronFlags();
+        String ours = "sense a is .a;sense b is .b;sense c is .c;sense d is .d;";
+        due("his", Kit.book(x, ours.replace("sense " + code, "sense " + name)), 1);
+        due("ours", Kit.book(x, ours), 2);
+        due("flown", x.flown(0, 0, Kit.row("abcd")), 3);
+        due("another for " + code, x.taken(3, 1), taken);
+        due("flown", x.flown(0, 0, Kit.row("abcd".substring(1))), 4);
+        due("another for " + code + " in b c d", x.taken(4, 1), code == 'a' ? 2 : taken);
     }
 
     private static final String SIX = "sense go is .a;sense stop is .b;sense turn is .c;sense fire is .d;sense wait is .e;"
